@@ -1,0 +1,44 @@
+import java.util.function.Supplier;
+
+/** Compares answers with those that are due, and tells at the end whether all were right. */
+final class Check {
+    private int wrong = 0;
+    private int made = 0;
+
+    void due(String call, Object want, Supplier<Object> call1) {
+        made++;
+        String got = answerOf(call1);
+        if (!got.equals(String.valueOf(want))) {
+            wrong++;
+            System.out.println(call + " answered " + got + ", due is " + want);
+        }
+    }
+
+    void dueIndex(String call, Supplier<Object> made) {
+        due(call, "throws java.lang.IndexOutOfBoundsException", made);
+    }
+
+    void dueArgument(String call, Supplier<Object> made) {
+        due(call, "throws java.lang.IllegalArgumentException", made);
+    }
+
+    void dueState(String call, Supplier<Object> made) {
+        due(call, "throws java.lang.IllegalStateException", made);
+    }
+
+    /** An exception is told by its own class, so one that the machine throws is never the due one. */
+    static String answerOf(Supplier<Object> call) {
+        try {
+            return String.valueOf(call.get());
+        } catch (RuntimeException thrown) {
+            return "throws " + thrown.getClass().getName();
+        }
+    }
+
+    void end() {
+        System.out.println(made + " answers, " + wrong + " of them wrong");
+        if (wrong != 0 || made == 0) {
+            System.exit(1);
+        }
+    }
+}
