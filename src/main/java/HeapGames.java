@@ -33,7 +33,6 @@ public final class HeapGames {
     private static final int POSITIONS = (MOST_PASSES + 1) << PASS_SHIFT;
 
     private Game game = new Game();
-    private Game draft = new Game();
     private final TextReader reader = new TextReader();
     private final Solver solver = new Solver();
     private final History history = new History();
@@ -65,16 +64,18 @@ public final class HeapGames {
             throw new IllegalArgumentException("bytes is out of range");
         }
         reader.inputLength = 0;
-        if (!reader.readText(bytes, draft)) {
+        if (!reader.readText(bytes)) {
             return reader.failure;
         }
         Game replaced = game;
-        game = draft;
-        draft = replaced;
+        game = reader.draft;
+        reader.draft = replaced;
         game.fillValues();
         solver.forget();
         history.clear();
-        Arrays.fill(isSaved, false);
+        for (int slot = 0; slot < SLOTS; slot++) {
+            isSaved[slot] = false;
+        }
         return game.ruleCount;
     }
 
@@ -287,11 +288,11 @@ public final class HeapGames {
     }
 
     public int best() {
+        solvePosition();
         return findBest();
     }
 
     private int findBest() {
-        solvePosition();
         int moves = listMoves();
         int found = NONE;
         for (int index = 0; index < moves; index++) {
@@ -408,6 +409,7 @@ public final class HeapGames {
     }
 
     public int play() throws IllegalStateException {
+        solvePosition();
         int found = findBest();
         if (found == NONE) {
             throw new IllegalStateException("the position has no move");
@@ -832,8 +834,9 @@ public final class HeapGames {
         // no game takes more than 63 moves (60 counters, 3 passes), so values and lengths are below 64
         private static final int SMALL = 63;
         private static final int NO_LENGTH = 64;
-        // 15 amounts of each heap, 8 shared ones of each of the 6 pairs, and the pass are 109
-        private static final int MOST_MOVES = 110;
+        // 8 amounts of each heap (of the take rule; up to 15 counters the other kinds have fewer),
+        // 8 shared ones of each of the 6 pairs, and the pass
+        private static final int MOST_MOVES = 81;
 
         private final int[] table = new int[POSITIONS];
         private final int[] allowed = new int[MOST_HEAPS * (MOST_SIZE + 1)];
@@ -1056,7 +1059,7 @@ public final class HeapGames {
         private int tokenStart;
         private int tokenEnd;
         private int token;
-        private Game read;
+        Game draft = new Game();
         private boolean hasPasses;
         private long amountSet;
         int failure;
@@ -1068,11 +1071,11 @@ public final class HeapGames {
             }
         }
 
-        boolean readText(int textLength, Game target) {
+        /** Reads a text into the draft. */
+        boolean readText(int textLength) {
             limit = Math.min(textLength, bytes.length);
             tokenEnd = 0;
-            read = target;
-            read.clear();
+            draft.clear();
             hasPasses = false;
             for (int statements = 0; statements <= limit; statements++) {
                 nextToken();
@@ -1082,16 +1085,15 @@ public final class HeapGames {
                 if (!readStatement()) {
                     return false;
                 }
+                if (token != SEMICOLON) {
+                    return fail(SYNTAX);
+                }
             }
             return true;
         }
 
+        /** Each kind of statement is read on to the token that has to be its semicolon. */
         private boolean readStatement() {
-            return readItems() && (token == SEMICOLON || fail(SYNTAX));
-        }
-
-        /** Each kind of statement reads on to the token that has to be its semicolon. */
-        private boolean readItems() {
             if (isWord("rule")) {
                 return readRule();
             }
@@ -1111,7 +1113,7 @@ public final class HeapGames {
         }
 
         private boolean readRule() {
-            if (read.ruleCount >= MOST_RULES) {
+            if (draft.ruleCount >= MOST_RULES) {
                 return fail(TOO_MANY);
             }
             nextToken();
@@ -1119,7 +1121,7 @@ public final class HeapGames {
                 return fail(SYNTAX);
             }
             long name = nameOfToken();
-            if (read.ruleNamed(name) != NONE) {
+            if (draft.ruleNamed(name) != NONE) {
                 return fail(REPEATED);
             }
             nextToken();
@@ -1132,19 +1134,19 @@ public final class HeapGames {
             if (kind == TAKE && !readAmounts(MOST_AMOUNT)) {
                 return false;
             }
-            read.addRule(name, kind, amountSet);
+            draft.addRule(name, kind, amountSet);
             return true;
         }
 
         private boolean readHeap() {
-            if (read.state.heaps >= MOST_HEAPS) {
+            if (draft.state.heaps >= MOST_HEAPS) {
                 return fail(TOO_MANY);
             }
             nextToken();
             if (!isName()) {
                 return fail(SYNTAX);
             }
-            int rule = read.ruleNamed(nameOfToken());
+            int rule = draft.ruleNamed(nameOfToken());
             if (rule == NONE) {
                 return fail(UNKNOWN);
             }
@@ -1156,20 +1158,20 @@ public final class HeapGames {
             if (counters > MOST_SIZE) {
                 return fail(RANGE);
             }
-            read.state.addLast(rule, counters);
+            draft.state.addLast(rule, counters);
             nextToken();
             return true;
         }
 
         private boolean readShared() {
-            if (read.shared != 0) {
+            if (draft.shared != 0) {
                 return fail(REPEATED);
             }
             nextToken();
             if (!readAmounts(MOST_SIZE)) {
                 return false;
             }
-            read.shared = (int) amountSet;
+            draft.shared = (int) amountSet;
             return true;
         }
 
@@ -1186,16 +1188,16 @@ public final class HeapGames {
             if (passes > MOST_PASSES) {
                 return fail(RANGE);
             }
-            read.state.position += passes * PASS;
+            draft.state.position += passes * PASS;
             nextToken();
             return true;
         }
 
         private boolean readMisere() {
-            if (read.state.misere) {
+            if (draft.state.misere) {
                 return fail(REPEATED);
             }
-            read.state.misere = true;
+            draft.state.misere = true;
             nextToken();
             return true;
         }
@@ -1207,30 +1209,23 @@ public final class HeapGames {
                 if (count > 0 && token != DIGITS) {
                     return true;
                 }
-                if (!readAmount(most, count)) {
-                    return false;
+                if (!isNumber()) {
+                    return fail(SYNTAX);
                 }
+                int amount = numberOfToken();
+                // one that is out of range cannot stand there already: it would have ended the reading
+                if (amount < 1 || amount > most) {
+                    return fail(RANGE);
+                }
+                if ((amountSet >> amount & 1) != 0) {
+                    return fail(REPEATED);
+                }
+                if (count == MOST_AMOUNTS) {
+                    return fail(TOO_MANY);
+                }
+                amountSet |= 1L << amount;
                 nextToken();
             }
-            return true;
-        }
-
-        private boolean readAmount(int most, int count) {
-            if (!isNumber()) {
-                return fail(SYNTAX);
-            }
-            int amount = numberOfToken();
-            boolean isInRange = amount >= 1 && amount <= most;
-            if (isInRange && (amountSet >> amount & 1) != 0) {
-                return fail(REPEATED);
-            }
-            if (!isInRange) {
-                return fail(RANGE);
-            }
-            if (count == MOST_AMOUNTS) {
-                return fail(TOO_MANY);
-            }
-            amountSet |= 1L << amount;
             return true;
         }
 
@@ -1258,10 +1253,10 @@ public final class HeapGames {
         }
 
         private int kindOfByte(int at) {
-            if (at >= limit) {
+            if (at < 0 || at >= limit || at >= bytes.length) {
                 return END;
             }
-            int found = byteAt(at);
+            int found = bytes[at];
             if (found >= 'a' && found <= 'z') {
                 return WORD;
             }

@@ -71,6 +71,9 @@ public final class ChangeTests {
         CHECK.dueArgument("takeBoth(0, 2, 1)", () -> g.takeBoth(0, 2, 1));
         CHECK.due("the changes", 2, () -> g.size(9));
         CHECK.due("the player who is to move", 0, () -> g.size(7));
+        HeapGames whole = Texts.gameOf("rule a take 60;heap a 3;heap a 4;heap a 15;heap a 15;shared 3 15;");
+        CHECK.due("all of the lower heap", 31, () -> whole.takeBoth(0, 1, 3));
+        CHECK.due("15 of both", 1, () -> whole.takeBoth(3, 2, 15));
     }
 
     private static void pass() {

@@ -3,11 +3,11 @@ import java.util.function.Supplier;
 /** Compares answers with those that are due, and tells at the end whether all were right. */
 final class Check {
     private int wrong = 0;
-    private int made = 0;
+    private int calls = 0;
 
-    void due(String call, Object want, Supplier<Object> call1) {
-        made++;
-        String got = answerOf(call1);
+    void due(String call, Object want, Supplier<Object> made) {
+        calls++;
+        String got = answerOf(made);
         if (!got.equals(String.valueOf(want))) {
             wrong++;
             System.out.println(call + " answered " + got + ", due is " + want);
@@ -36,8 +36,8 @@ final class Check {
     }
 
     void end() {
-        System.out.println(made + " answers, " + wrong + " of them wrong");
-        if (wrong != 0 || made == 0) {
+        System.out.println(calls + " answers, " + wrong + " of them wrong");
+        if (wrong != 0 || calls == 0) {
             System.exit(1);
         }
     }

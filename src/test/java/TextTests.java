@@ -91,6 +91,7 @@ public final class TextTests {
         good("rule a take 60;", 1);
         good("rule a take 01 02;", 1);
         good("shared 1 2 3 4 5 6 7 15;", 0);
+        good("rule aaaaaaaa half;rule caaaaaaa half;rule aaaaaaab half;rule aaaaaaa half;", 4);
         good("misere;passes 0;shared 8;rule z squares;heap z 00;heap z 07;", 1);
         good("rule a half;rule b half;rule c half;rule d half;rule e half;rule f half;", 6);
         good("rule a half;heap a 1;heap a 2;heap a 3;heap a 4;", 1);
@@ -235,6 +236,10 @@ public final class TextTests {
         CHECK.due("what can be undone after it", 2, () -> g.size(9));
         CHECK.due("undo after it", 1, () -> g.undo());
         CHECK.due("the snapshot after it", 2, () -> g.restoreSnapshot(1));
+        CHECK.due("a refused text", Texts.error(24, 1), () -> Texts.parse(g, "rule x half;rule y half;;"));
+        CHECK.due("its rules are unknown", Texts.error(5, 4), () -> Texts.parse(g, "heap x 1;"));
+        CHECK.due("its names are free", 1, () -> Texts.parse(g, "rule x half;heap x 1;"));
+        CHECK.due("and so are those of replaced texts", Texts.error(5, 4), () -> Texts.parse(g, "heap a 1;"));
     }
 
     private static void whatATextReplaces() {
