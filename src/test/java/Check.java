@@ -35,9 +35,14 @@ final class Check {
         }
     }
 
+    /** A test that compares nothing shows nothing. */
+    boolean isRight() {
+        return wrong == 0 && calls > 0;
+    }
+
     void end() {
         System.out.println(calls + " answers, " + wrong + " of them wrong");
-        if (wrong != 0 || calls == 0) {
+        if (!isRight()) {
             System.exit(1);
         }
     }

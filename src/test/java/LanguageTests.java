@@ -1,14 +1,24 @@
 import java.io.IOException;
+import java.lang.reflect.Field;
+import java.lang.reflect.Method;
+import java.lang.reflect.Modifier;
 import java.nio.charset.StandardCharsets;
 import java.nio.file.Files;
 import java.nio.file.Path;
+import java.util.ArrayList;
 import java.util.List;
 import java.util.regex.Matcher;
 import java.util.regex.Pattern;
 
-/** Some rules of ../shared/LANGUAGE.md that can be seen in the source, which is read from the project's folder. */
+/**
+ * Some rules of ../shared/LANGUAGE.md that can be seen in the source, which is read from the project's folder,
+ * or in the classes that it makes.
+ */
 public final class LanguageTests {
     private static final int LONGEST_METHOD = 60;
+    private static final int MOST_PARAMETERS = 7;
+    private static final int MOST_CLASSES = 12;
+    private static final int MOST_FIELDS = 20;
     private static final String[] RULED_OUT = {
         "->", "::", "\\b(try|catch|finally|synchronized|assert|native|volatile|package|protected)\\b",
         "\\bMath\\.\\w+Exact\\b", "\\b(HashMap|Random|Thread|System\\.(?!arraycopy))", "@",
@@ -29,7 +39,44 @@ public final class LanguageTests {
             check.due("code like " + pattern, "", () -> firstLike(code, pattern));
         }
         check.due("a longer method ends", "", () -> longMethods(List.of(source.split("\n"))));
+        List<Class<?>> classes = new ArrayList<>(List.of(HeapGames.class.getDeclaredClasses()));
+        classes.add(HeapGames.class);
+        check.due("at most some twelve classes", true, () -> classes.size() <= MOST_CLASSES);
+        for (Class<?> type : classes) {
+            check.due("classes inside " + type, type == HeapGames.class ? classes.size() - 1 : 0,
+                    () -> type.getDeclaredClasses().length);
+            check.due("static fields of " + type + " that are not constants", "", () -> changingStatics(type));
+            check.due("some twenty fields in " + type, true, () -> countFields(type) <= MOST_FIELDS);
+            check.due("methods of " + type + " with too many parameters", "", () -> wideMethods(type));
+        }
         check.end();
+    }
+
+    private static String changingStatics(Class<?> type) {
+        StringBuilder found = new StringBuilder();
+        for (Field field : type.getDeclaredFields()) {
+            int modifiers = field.getModifiers();
+            if (Modifier.isStatic(modifiers) && !Modifier.isFinal(modifiers)) {
+                found.append(field.getName()).append(' ');
+            }
+        }
+        return found.toString();
+    }
+
+    private static int countFields(Class<?> type) {
+        int count = 0;
+        for (Field field : type.getDeclaredFields()) {
+            count += Modifier.isStatic(field.getModifiers()) ? 0 : 1;
+        }
+        return count;
+    }
+
+    private static String wideMethods(Class<?> type) {
+        StringBuilder found = new StringBuilder();
+        for (Method method : type.getDeclaredMethods()) {
+            found.append(method.getParameterCount() > MOST_PARAMETERS ? method.getName() + " " : "");
+        }
+        return found.toString();
     }
 
     private static String firstLike(String code, String pattern) {

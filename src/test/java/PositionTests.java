@@ -132,8 +132,8 @@ public final class PositionTests {
     }
 
     private static void normalAndMisereNim() {
-        HeapGames g = Texts.gameOf(NIM + "heap a 0;heap a 0;heap a 0;");
         for (int sizes = 0; sizes < 5 * 5 * 5; sizes++) {
+            HeapGames g = Texts.gameOf(NIM + "heap a 0;heap a 0;heap a 0;");
             int x = sizes % 5;
             int y = sizes / 5 % 5;
             int z = sizes / 25;

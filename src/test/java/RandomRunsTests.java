@@ -2,8 +2,11 @@ import java.util.function.Supplier;
 
 /** Long runs of calls, each answered by the class and by the reference; the numbers are the same in every run. */
 public final class RandomRunsTests {
-    private static final int RUNS = 400;
+    private static final int RUNS = 600;
     private static final int CALLS = 512;
+    // a text of at most 400 bytes takes 20 calls and parse, and a run ends with 10 calls of size
+    private static final int CALLS_OF_A_STEP = 22;
+    private static final int CALLS_AT_THE_END = 10;
     private static final String[] PIECES = {
         "rule", "heap", "shared", "passes", "misere", "take", "divisors", "half", "powers", "squares",
         ";", ";", ";", " ", " ", "a", "b", "abcdefgh", "abcdefghi", "0", "1", "3", "7", "15", "16", "60", "61",
@@ -15,6 +18,7 @@ public final class RandomRunsTests {
     private HeapGames games;
     private Reference reference;
     private int most;
+    private int calls;
 
     private RandomRunsTests() {
     }
@@ -38,12 +42,15 @@ public final class RandomRunsTests {
         reference = new Reference();
         // large positions cost the reference much time, so few runs have them
         most = run % 40 == 0 ? 15 : run % 4 == 0 ? 9 : 5;
-        int left = CALLS;
-        left -= readSomeText(run);
-        while (left > 20) {
-            left -= below(60) == 0 ? readSomeText(run) : callOnce(run);
+        calls = 0;
+        readSomeText(run);
+        while (calls + CALLS_OF_A_STEP + CALLS_AT_THE_END <= CALLS) {
+            if (below(60) == 0) {
+                readSomeText(run);
+            } else {
+                callOnce(run);
+            }
             same(run, "checksum()", () -> games.checksum(), () -> reference.checksum());
-            left--;
         }
         for (int what = 0; what < 10; what++) {
             int asked = what;
@@ -52,23 +59,21 @@ public final class RandomRunsTests {
     }
 
     private void same(int run, String call, Supplier<Object> got, Supplier<Object> want) {
+        calls++;
         check.due("run " + run + ": " + call, Check.answerOf(want), got);
     }
 
-    private int readSomeText(int run) {
+    private void readSomeText(int run) {
         String text = below(4) == 0 ? jumbledText() : validText();
         if (below(5) == 0 && !text.isEmpty()) {
             text = damaged(text);
         }
         byte[] bytes = text.getBytes(java.nio.charset.StandardCharsets.ISO_8859_1);
-        int calls = 0;
         for (int at = 0; at < bytes.length; at += 20) {
             append(run, bytes, at);
-            calls++;
         }
         int length = text.length();
         same(run, "parse of '" + text + "'", () -> games.parse(length), () -> reference.parse(length));
-        return calls + 1;
     }
 
     private void append(int run, byte[] bytes, int at) {
@@ -157,7 +162,7 @@ public final class RandomRunsTests {
         return edgy(below(3) == 0 ? 300 : 40);
     }
 
-    private int callOnce(int run) {
+    private void callOnce(int run) {
         int choice = below(5);
         if (choice == 0) {
             askRules(run);
@@ -166,11 +171,10 @@ public final class RandomRunsTests {
         } else {
             change(run);
         }
-        return 1;
     }
 
     private void askRules(int run) {
-        int rule = edgy(Math.max(0, games.size(0) - 1));
+        int rule = edgy(Math.max(0, reference.size(0) - 1));
         int n = counters();
         int amount = edgy(40);
         int index = edgy(5);
@@ -192,7 +196,7 @@ public final class RandomRunsTests {
     private void askPosition(int run) {
         int heap = edgy(3);
         int what = edgy(10);
-        int index = edgy(Math.max(0, games.moves() - 1));
+        int index = edgy(Math.max(0, reference.moves() - 1));
         String on = "(" + index + ", " + what + ")";
         switch (below(13)) {
             case 0: same(run, "heap(" + heap + ", " + what + ")", () -> games.heap(heap, what), () -> reference.heap(heap, what)); break;
@@ -212,7 +216,7 @@ public final class RandomRunsTests {
     }
 
     private void change(int run) {
-        int heap = edgy(Math.max(0, games.size(1) - 1));
+        int heap = edgy(Math.max(0, reference.size(1) - 1));
         int other = edgy(3);
         int amount = edgy(below(4) == 0 ? 15 : 3);
         int size = edgy(most);

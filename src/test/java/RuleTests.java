@@ -16,18 +16,22 @@ public final class RuleTests {
     }
 
     public static void main(String[] args) {
-        HeapGames g = Texts.gameOf(ALL_KINDS);
         size();
-        kind(g);
-        mayTake(g);
-        amounts(g);
-        value(g);
-        heapWith(g);
-        greatest(g);
-        zeros(g);
-        period(g);
-        wrongInputs(g);
+        kind(kindsOfRules());
+        mayTake();
+        amounts(kindsOfRules());
+        value();
+        heapWith(kindsOfRules());
+        greatest(kindsOfRules());
+        zeros(kindsOfRules());
+        period(kindsOfRules());
+        wrongInputs(kindsOfRules());
         CHECK.end();
+    }
+
+    /** A new object each time, because nothing is promised of one after its 512th call. */
+    private static HeapGames kindsOfRules() {
+        return Texts.gameOf(ALL_KINDS);
     }
 
     private static void size() {
@@ -70,7 +74,8 @@ public final class RuleTests {
     }
 
     /** The amounts that may be taken from n are just these. */
-    private static void allowed(HeapGames g, int rule, int n, int... want) {
+    private static void allowed(int rule, int n, int... want) {
+        HeapGames g = kindsOfRules();
         for (int amount = -2; amount <= 305; amount++) {
             boolean isAllowed = false;
             for (int each : want) {
@@ -88,31 +93,31 @@ public final class RuleTests {
         CHECK.due("amounts(" + rule + ", " + n + ")", want.length, () -> g.amounts(rule, n));
     }
 
-    private static void mayTake(HeapGames g) {
+    private static void mayTake() {
         for (int rule = T; rule <= U; rule++) {
-            allowed(g, rule, 0);
+            allowed(rule, 0);
         }
-        allowed(g, T, 1, 1);
-        allowed(g, T, 3, 1, 3);
-        allowed(g, T, 4, 1, 3, 4);
-        allowed(g, T, 300, 1, 3, 4);
-        allowed(g, D, 1);
-        allowed(g, D, 2, 1);
-        allowed(g, D, 12, 1, 2, 3, 4, 6);
-        allowed(g, D, 13, 1);
-        allowed(g, D, 300, 1, 2, 3, 4, 5, 6, 10, 12, 15, 20, 25, 30, 50, 60, 75, 100, 150);
-        allowed(g, H, 1);
-        allowed(g, H, 2, 1);
-        allowed(g, H, 9, 1, 2, 3, 4);
-        allowed(g, P, 1, 1);
-        allowed(g, P, 7, 1, 2, 4);
-        allowed(g, P, 8, 1, 2, 4, 8);
-        allowed(g, P, 300, 1, 2, 4, 8, 16, 32, 64, 128, 256);
-        allowed(g, S, 3, 1);
-        allowed(g, S, 4, 1, 4);
-        allowed(g, S, 300, 1, 4, 9, 16, 25, 36, 49, 64, 81, 100, 121, 144, 169, 196, 225, 256, 289);
-        allowed(g, U, 59);
-        allowed(g, U, 60, 60);
+        allowed(T, 1, 1);
+        allowed(T, 3, 1, 3);
+        allowed(T, 4, 1, 3, 4);
+        allowed(T, 300, 1, 3, 4);
+        allowed(D, 1);
+        allowed(D, 2, 1);
+        allowed(D, 12, 1, 2, 3, 4, 6);
+        allowed(D, 13, 1);
+        allowed(D, 300, 1, 2, 3, 4, 5, 6, 10, 12, 15, 20, 25, 30, 50, 60, 75, 100, 150);
+        allowed(H, 1);
+        allowed(H, 2, 1);
+        allowed(H, 9, 1, 2, 3, 4);
+        allowed(P, 1, 1);
+        allowed(P, 7, 1, 2, 4);
+        allowed(P, 8, 1, 2, 4, 8);
+        allowed(P, 300, 1, 2, 4, 8, 16, 32, 64, 128, 256);
+        allowed(S, 3, 1);
+        allowed(S, 4, 1, 4);
+        allowed(S, 300, 1, 4, 9, 16, 25, 36, 49, 64, 81, 100, 121, 144, 169, 196, 225, 256, 289);
+        allowed(U, 59);
+        allowed(U, 60, 60);
     }
 
     private static void amounts(HeapGames g) {
@@ -123,12 +128,12 @@ public final class RuleTests {
         }
     }
 
-    private static void value(HeapGames g) {
+    private static void value() {
         int[] take = {0, 1, 0, 1, 2, 3, 2};
         int[] squares = {0, 1, 0, 1, 2, 0, 1, 0, 1, 2, 0, 1, 0, 1, 2, 0, 1, 0, 1, 2};
-        int half = 0;
         for (int n = 0; n <= 300; n++) {
             int asked = n;
+            HeapGames g = kindsOfRules();
             CHECK.due("value of take " + n, take[n % 7], () -> g.value(T, asked));
             CHECK.due("value of divisors " + n, n == 0 ? 0 : Integer.numberOfTrailingZeros(n), () -> g.value(D, asked));
             CHECK.due("value of half " + n, halfValue(n), () -> g.value(H, asked));
