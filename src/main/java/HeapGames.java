@@ -303,13 +303,13 @@ public final class HeapGames {
         return found;
     }
 
-    /** Tells whether it is better to lead the other player to one position than to another. */
     private boolean isBetter(int next, int other) {
         boolean isWonNext = solver.isWonAt(next);
         if (isWonNext != solver.isWonAt(other)) {
             return !isWonNext;
         }
         int difference = solver.lengthAt(next) - solver.lengthAt(other);
+        // the winner hurries, the loser delays; a tie is not better, so the lowest index stays
         return isWonNext ? difference > 0 : difference < 0;
     }
 
@@ -557,7 +557,7 @@ public final class HeapGames {
         return row & ~(15 << 4 * heap) | bits << 4 * heap;
     }
 
-    /** Leaves out the bits of a heap, so that those of the higher heaps come one place down. */
+    // the higher heaps move one place down, since their numbers become 1 less
     private static int withoutBits(int row, int heap) {
         int lower = row & (1 << 4 * heap) - 1;
         int higher = (row & PASS - 1) >> 4 * (heap + 1);
@@ -568,7 +568,7 @@ public final class HeapGames {
         return position >> PASS_SHIFT;
     }
 
-    /** What the calls move and played tell of a move for what from 0 to 3. */
+    // a move needs no record of its kind: the heaps in which it has bits tell it
     private static int describe(int move, int what) {
         int first = heapTakenFrom(move, 0);
         int second = first == NONE ? NONE : heapTakenFrom(move, first + 1);
@@ -589,7 +589,7 @@ public final class HeapGames {
         return NONE;
     }
 
-    /** A rule with the values of all heaps that may be asked about. */
+    /** The values are kept, since each is found from those of all smaller heaps. */
     private static final class Rule {
         long name;
         int ruleKind;
@@ -677,9 +677,9 @@ public final class HeapGames {
             return NONE;
         }
 
-        /** The least number from which on every value comes again a step later, up to the last. */
         int startOfStep(int step, int last) {
             int first = last - step + 1;
+            // the equal values have to reach up to the last one, so the way goes down from there
             while (first > 0 && valueOf(first - 1) == valueOf(first - 1 + step)) {
                 first--;
             }
@@ -687,7 +687,7 @@ public final class HeapGames {
         }
     }
 
-    /** Everything that changes can change. */
+    /** Everything that changes can change, apart from the rest so that undo and snapshots copy this alone. */
     private static final class State {
         int heaps;
         int heapRules;
@@ -738,7 +738,7 @@ public final class HeapGames {
         }
     }
 
-    /** All that a text tells. */
+    /** All that a text tells, in one object so that a text with an error leaves the present one as it is. */
     private static final class Game {
         private final Rule[] rules = new Rule[MOST_RULES];
         int ruleCount;
@@ -789,7 +789,7 @@ public final class HeapGames {
         }
     }
 
-    /** The states before the latest changes, in a ring. */
+    /** The states before the latest changes, in a ring: the eleventh change takes the place of the first. */
     private static final class History {
         private final State[] states = new State[MOST_CHANGES];
         private int next = 0;
@@ -882,7 +882,7 @@ public final class HeapGames {
             }
         }
 
-        /** Lists the positions to which the moves lead, in the order of the moves. */
+        // the order is that of the document, since the numbers of moves depend on it
         int listNext(int position) {
             nextCount = 0;
             for (int heap = 0; heap < heaps; heap++) {
@@ -947,7 +947,6 @@ public final class HeapGames {
             }
         }
 
-        /** Counts the ways in which the heaps have at most as many counters as in the top. */
         private static int countHeapsBelow(int top) {
             int count = 1;
             for (int heap = 0; heap < MOST_HEAPS; heap++) {
@@ -956,7 +955,7 @@ public final class HeapGames {
             return count;
         }
 
-        /** The next higher position in which no heap has more counters than in the top. */
+        // counts on like a number whose digits are the heaps, and whose overflow is one more pass
         private static int followingBelow(int position, int top) {
             int rest = position;
             for (int heap = 0; heap < MOST_HEAPS; heap++) {
@@ -1021,9 +1020,9 @@ public final class HeapGames {
             return foundAt(position) >> LENGTH_SHIFT & SMALL;
         }
 
-        /** Counts the lost positions with the passes of the top and no more counters in any heap. */
         int countLostBelow(int top) {
             int count = 0;
+            // the passes stay those of the top: only the heaps are counted through
             int position = top & -PASS;
             for (int left = countHeapsBelow(top); left > 0; left--) {
                 if (!isWonAt(position)) {
@@ -1035,7 +1034,7 @@ public final class HeapGames {
         }
     }
 
-    /** The input buffer, read as a text token by token; the first error ends it. */
+    /** A text is read token by token, since the first error ends its reading. */
     private static final class TextReader {
         private static final int SYNTAX = 1;
         private static final int REPEATED = 2;
@@ -1071,7 +1070,6 @@ public final class HeapGames {
             }
         }
 
-        /** Reads a text into the draft. */
         boolean readText(int textLength) {
             limit = Math.min(textLength, bytes.length);
             tokenEnd = 0;
@@ -1092,7 +1090,7 @@ public final class HeapGames {
             return true;
         }
 
-        /** Each kind of statement is read on to the token that has to be its semicolon. */
+        // each statement is read one token beyond its end, since only that token ends a list of amounts
         private boolean readStatement() {
             if (isWord("rule")) {
                 return readRule();
@@ -1202,7 +1200,6 @@ public final class HeapGames {
             return true;
         }
 
-        /** Reads one amount or more from the present token on. */
         private boolean readAmounts(int most) {
             amountSet = 0;
             for (int count = 0; count <= MOST_AMOUNTS; count++) {
@@ -1290,7 +1287,7 @@ public final class HeapGames {
             return token == WORD && tokenLength() <= MOST_LETTERS;
         }
 
-        /** A name as a number: its letters, a byte each, fill a long at most. */
+        // a name fits into a long, a letter into a byte, so no text has to be kept
         private long nameOfToken() {
             long name = 0;
             for (int at = tokenStart; at < tokenEnd; at++) {
